@@ -370,10 +370,10 @@ public final class LadderScan {
                     return a;
                 }
             } else if (op == WORK) {
-                if (!blocks[a].work(top, memory)) {
+                if (blocks[a].failsWith(top)) {
                     return DIVIDED_BY_ZERO;
                 }
-                stack = withTop(stack, blocks[a].output);
+                stack = withTop(stack, blocks[a].work(top, memory));
             } else if (op >= SET) {
                 memory.assign(op, a, top);
             } else {
@@ -518,37 +518,41 @@ public final class LadderScan {
             lastInput = 0;
         }
 
-        /** Answers false, and changes nothing, if the working is a failure. */
-        boolean work(int x, Memory memory) {
-            if (kind == DIVIDE && x == 1 && factor == 0) {
-                return false;
-            }
-            output = outputWith(x, memory);
-            lastInput = x;
-            return true;
+        /** To be asked before work, which a failure must not begin. */
+        boolean failsWith(int x) {
+            return kind == DIVIDE && x == 1 && factor == 0;
         }
 
-        private int outputWith(int x, Memory memory) {
+        /** Answers the output that comes of it. */
+        int work(int x, Memory memory) {
             switch (kind) {
                 case ON_DELAY:
                     counted = x == 1 ? Math.min(counted + 1, p) : 0;
-                    return x == 1 && counted == p ? 1 : 0;
+                    output = x == 1 && counted == p ? 1 : 0;
+                    break;
                 case OFF_DELAY:
                     counted = x == 1 ? p : Math.max(counted - 1, 0);
-                    return counted > 0 ? 1 : 0;
+                    output = counted > 0 ? 1 : 0;
+                    break;
                 case COUNTER:
                     counted = countWith(x, memory.read(q));
-                    return counted == p ? 1 : 0;
+                    output = counted == p ? 1 : 0;
+                    break;
                 case RISING:
-                    return x == 1 && lastInput == 0 ? 1 : 0;
+                    output = x == 1 && lastInput == 0 ? 1 : 0;
+                    break;
                 case FALLING:
-                    return x == 0 && lastInput == 1 ? 1 : 0;
+                    output = x == 0 && lastInput == 1 ? 1 : 0;
+                    break;
                 default:
                     if (x == 1) {
                         memory.store(q, reckon(memory.registers[p]));
                     }
-                    return x;
+                    output = x;
+                    break;
             }
+            lastInput = x;
+            return output;
         }
 
         private int countWith(int x, int reset) {
@@ -601,11 +605,11 @@ public final class LadderScan {
             return had;
         }
 
+        /** Without the depths, which only the ladder that is being written needs. */
         void copyFrom(Ladder other) {
             System.arraycopy(other.ops, 0, ops, 0, RUNGS * STEPS);
             System.arraycopy(other.operands, 0, operands, 0, RUNGS * STEPS);
             System.arraycopy(other.lengths, 0, lengths, 0, RUNGS);
-            System.arraycopy(other.depths, 0, depths, 0, RUNGS);
         }
 
         int size() {

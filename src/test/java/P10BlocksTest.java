@@ -9,6 +9,7 @@ public final class P10BlocksTest {
         divide();
         limit();
         outputOfTheNumberBlocks();
+        neverTuned();
         aBlockMayWorkTwiceInAScan();
         Check.end();
     }
@@ -120,6 +121,16 @@ public final class P10BlocksTest {
             x.put(0, 0.5);
             run(x, new int[][] {{0, 0, 0}, {1, 1, 0}, {1, 1, 0}, {0, 0, 0}});
             Check.same("register 0 onto itself", x.register(0), 0.5);
+        }
+    }
+
+    private static void neverTuned() {
+        for (int kind = 5; kind <= 7; kind += 2) {
+            LadderScan x = Check.through(kind, 0, 1);
+            x.put(0, 5);
+            x.put(1, 5);
+            run(x, new int[][] {{1, 1, 0}});
+            Check.same("factor and offset are 0", x.register(1), 0);
         }
     }
 

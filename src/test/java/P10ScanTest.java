@@ -140,6 +140,7 @@ public final class P10ScanTest {
         Check.same("nothing after it", x.bit(10), 0);
         Check.same("the step after it", x.bit(9), 0);
         Check.same("register 1", x.register(1), 3);
+        Check.same("the block did not come to its output", x.state(0, 1), 0);
         Check.refuses("while stopped", x, STATE, () -> x.scan(1));
         x.restart();
         x.tune(0, 2, 0);

@@ -8,6 +8,8 @@ public final class P10StepsTest {
         registersAreCompared();
         coils();
         aRungBeginsWithAnEmptyStack();
+        valuesBelowTheTopStay();
+        onlyTheStepsOfTheRungAreDone();
         Check.end();
     }
 
@@ -113,5 +115,44 @@ public final class P10StepsTest {
         x.download();
         x.scan(1);
         Check.same("out(8)", x.out(8), 0);
+    }
+
+    /** Bit 0 lies below while each step that works on the top is done, and is then looked at by an OR with 0. */
+    private static void valuesBelowTheTopStay() {
+        for (int op = 0; op < 6; op++) {
+            for (int values = 0; values < 8; values++) {
+                LadderScan x = new LadderScan();
+                Check.rung(x, 0, 0, 0, 0, 2, op, 1, 10, 16, 3, 16, 7, 0);
+                if (op < 2) {
+                    x.step(0, 7, 0);
+                }
+                x.step(0, 10, 8);
+                x.download();
+                x.wire(0, values & 1);
+                x.wire(1, values >> 1 & 1);
+                x.wire(2, values >> 2);
+                x.scan(1);
+                int below = op < 2 ? (values | values >> 2) & 1 : values & 1;
+                Check.same("below op " + op + " with " + values, x.out(8), below);
+            }
+        }
+    }
+
+    private static void onlyTheStepsOfTheRungAreDone() {
+        LadderScan x = new LadderScan();
+        Check.rung(x, 0, 1, 31, 10, 16, 10, 17, 10, 18);
+        Check.rung(x, 11, 1, 31, 10, 8, 10, 9, 10, 10, 10, 11, 10, 12, 10, 13, 10, 14, 10, 15, 10, 19);
+        x.download();
+        x.erase(0);
+        Check.rung(x, 0, 1, 31, 10, 16);
+        x.download();
+        x.scan(1);
+        Check.same("bit 16", x.bit(16), 1);
+        Check.same("an erased step", x.bit(17), 0);
+        Check.same("an erased step", x.bit(18), 0);
+        for (int i = 8; i < 16; i++) {
+            Check.same("out " + i, x.out(i), 1);
+        }
+        Check.same("the tenth step", x.bit(19), 1);
     }
 }
