@@ -34,8 +34,8 @@ public final class RandomRunsTest {
         Model model = new Model();
         for (int i = 0; i < CALLS; i++) {
             draw(i);
-            String got = answer(() -> made(x));
-            String due = answer(() -> model.call(name, a, b, c, d, e));
+            String got = Check.answer(() -> made(x));
+            String due = Check.answer(() -> model.call(name, a, b, c, d, e));
             if (!got.equals(due)) {
                 System.out.println("run " + run + ", call " + i + ": " + name + " " + a + " " + b + " " + c + " " + d + " " + e
                     + " answered " + got + ", due is " + due);
@@ -43,14 +43,6 @@ public final class RandomRunsTest {
             }
         }
         return false;
-    }
-
-    private static String answer(Check.Call call) {
-        try {
-            return String.valueOf(call.make() + 0.0);
-        } catch (RuntimeException thrown) {
-            return thrown.getClass().getName();
-        }
     }
 
     /** Mostly calls that are in range, now and then one a little outside. */
